@@ -166,6 +166,16 @@ public final class NetTest {
     Due.is("a hub no more", x.kind(3), 1);
     BeepNet pair = Due.net(2, 0, 1);
     Due.is("two leaves, no hub", pair.kind(0), 2);
+    for (int hub = 0; hub < 8; hub++) {
+      BeepNet star = Due.net(8);
+      for (int p = 0; p < 8; p++) {
+        star.join(hub, p);
+      }
+      star.join(hub == 0 ? 1 : 0, hub == 7 ? 6 : 7);
+      Due.is("the only hub", star.kind(hub), 3);
+      Due.is("hubs", star.count(5), 1);
+      Due.is("leaves", star.count(4), 5);
+    }
     BeepNet ring = Due.net(3, 0, 1, 1, 2, 2, 0);
     Due.is("all are hubs", ring.kind(0), 3);
   }

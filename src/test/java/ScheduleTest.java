@@ -6,6 +6,7 @@ public final class ScheduleTest {
     schedule();
     texts();
     faults();
+    faultsAtTheEnd();
     faultsOfManyRounds();
     faultStays();
     fault();
@@ -103,6 +104,16 @@ public final class ScheduleTest {
     at(x, "al;", 0, 1);
     at(x, "ALL;", 0, 1);
     at(x, "allall;", 0, 1);
+    at(x, "bll;", 0, 1);
+    at(x, "axl;", 0, 1);
+    at(x, "sound;", 0, 1);
+    at(x, "all;ewice;", 4, 1);
+    at(x, "zall;", 0, 1);
+    at(x, "allz;", 0, 1);
+    at(x, "all`;", 3, 1);
+    at(x, "all{;", 3, 1);
+    at(x, "round 0:", 7, 1);
+    at(x, "round 0/", 7, 1);
     at(x, "roundround;", 0, 1);
     at(x, "round all;", 6, 1);
     at(x, "round 0 twice;", 8, 1);
@@ -134,6 +145,21 @@ public final class ScheduleTest {
     at(none, "round 0;", 6, 2);
     Due.is("no posts, a round of none", Due.schedule(none, "round;all;"), 2);
     Due.is("no posts, all", none.round(1), 0);
+  }
+
+  // What an earlier text left behind the end of a shorter one, and the tape's own end, are not read.
+  private static void faultsAtTheEnd() {
+    BeepNet x = Due.net(3);
+    at(x, "round 000;", 6, 1);
+    at(x, "round 0", 7, 1);
+    at(x, "rounds", 0, 1);
+    at(x, "round", 5, 1);
+    at(x, "all;;", 4, 1);
+    Due.is("no sign more", Due.schedule(x, "all;"), 1);
+    at(x, " ".repeat(293) + "round 0", 300, 1);
+    at(x, " ".repeat(297) + "all", 300, 1);
+    at(x, " ".repeat(299) + "#", 299, 1);
+    Due.is("300 blanks", Due.schedule(x, " ".repeat(300)), 0);
   }
 
   private static void faultsOfManyRounds() {

@@ -225,6 +225,9 @@ public final class SearchTest {
     Due.is("the 40th", x.jammed(0, 0, 1), 40);
     Due.is("the 60th", x.jammed(0, 0, 2), 60);
     Due.is("not in 60", x.jammed(0, 0, 3), Due.NONE);
+    Due.is("twenty", Due.schedule(x, "round 0;round;" + "twice;".repeat(18)), 20);
+    Due.is("the 41st", x.jammed(0, 0, 2), 41);
+    Due.is("the 61st is too late", x.jammed(0, 0, 3), Due.NONE);
     // by talk a spoilt round can help word on; the jammer need not spoil one
     BeepNet ring = Due.net(4, 0, 1, 1, 2, 2, 3, 3, 0);
     Due.schedule(ring, "all;");
