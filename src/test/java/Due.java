@@ -1,20 +1,55 @@
-/** What every test of the project uses: says which answer is not the one that is due, and counts these. */
+/** What every test of the project uses: says which answer is not the one that is due, and to which sentence. */
 final class Due {
   static final int NONE = -1000000, BAD = -1000001, STATE = -1000002, FULL = -1000003;
   static final int NULL = -1000011, PLACE = -1000012, KIND = -1000013, SIZE = -1000014, STORE = -1000015;
+  static final int LEAST = Integer.MIN_VALUE, GREATEST = Integer.MAX_VALUE;
 
-  private static int wrong = 0;
+  private static final int TOLD_MOST = 50;
+  private static String test = "";
+  private static int tests = 0;
+  private static int askedInTest = 0;
   private static int asked = 0;
+  private static int wrong = 0;
 
   private Due() {
   }
 
+  /** Begins a test: the promise that it holds the class against, and the sentence of the document. */
+  static void test(int promise, String sentence) {
+    begin("promise " + promise + ", \"" + sentence + "\"");
+  }
+
+  /** Begins a test of a rule of LANGUAGE.md. */
+  static void rule(int number, String sentence) {
+    begin("rule " + number + ", \"" + sentence + "\"");
+  }
+
+  /** Begins a test of the tests themselves. */
+  static void about(String what) {
+    begin(what);
+  }
+
+  private static void begin(String name) {
+    holdsSomething();
+    test = name;
+    tests++;
+    askedInTest = 0;
+  }
+
+  private static void holdsSomething() {
+    if (tests > 0 && askedInTest == 0) {
+      wrong++;
+      System.out.println(test + ": the test asks nothing");
+    }
+  }
+
   static void is(String call, long got, long want) {
     asked++;
+    askedInTest++;
     if (got != want) {
       wrong++;
-      if (wrong <= 50) {
-        System.out.println(call + " answered " + got + ", due is " + want);
+      if (wrong <= TOLD_MOST) {
+        System.out.println(test + ": " + call + " answered " + got + ", due is " + want);
       }
     }
   }
@@ -24,8 +59,9 @@ final class Due {
   }
 
   static void end() {
-    System.out.println(asked + " answers, " + wrong + " not as due");
-    if (wrong != 0) {
+    holdsSomething();
+    System.out.println(tests + " tests, " + asked + " answers, " + wrong + " not as due");
+    if (wrong != 0 || tests == 0) {
       System.exit(1);
     }
   }
@@ -69,37 +105,36 @@ final class Due {
     return x.schedule();
   }
 
-  /**
-   * The lowest eight bits of an item, by picks: in a family of all single posts but one, and the item,
-   * that one is picked if the item has it. Wants 8 posts; uses sheet 7 and sets status() to 0.
-   */
-  static int bits(BeepNet x, int sheet, int lane, int i) {
-    int bits = 0;
-    for (int p = 0; p < 8; p++) {
-      x.sheet(7, lane, 8);
-      for (int q = 0; q < 8; q++) {
-        x.set(7, q, q == p ? 0 : 1 << q);
-      }
-      x.copy(sheet, i, 7, p, 1);
-      int others = x.picks(7, 0, 8, 1, 0);
-      bits |= others == 1 ? 1 << p : 0;
-    }
-    x.drop(7);
-    return bits;
+  /** A text that has a fault of a number at a place. */
+  static void faultAt(BeepNet x, String text, int place, int number) {
+    String call = "'" + text.replace('\n', '/') + "'";
+    is(call, schedule(x, text), -1000100 - place);
+    is(call + " fault()", x.fault(), number);
   }
 
-  /** All that can be seen without a change, but status() and the items of sheets. */
-  static String seen(BeepNet x) {
-    StringBuilder all = new StringBuilder();
-    for (int what = 0; what < 8; what++) {
-      all.append(x.count(what)).append(' ');
+  /**
+   * The lowest eight bits of an item, told by picks from single posts: each answer is one that is neither in
+   * the item nor told yet. Wants 8 posts; uses sheet 7 and sets status() to 0; 22 calls at most.
+   */
+  static int bits(BeepNet x, int sheet, int lane, int i) {
+    int without = 0;
+    x.sheet(7, lane, 2);
+    x.copy(sheet, i, 7, 0, 1);
+    for (int told = 0; told <= 8; told++) {
+      x.set(7, 1, without);
+      int first = x.picks(7, 0, 2, 1, 1);
+      if (first == NONE) {
+        break;
+      }
+      without |= first;
     }
-    for (int p = 0; p < 8; p++) {
-      all.append(x.told(p, 1)).append(' ').append(x.kind(p)).append(' ');
+    x.drop(7);
+    return 255 & ~without;
+  }
+
+  static void items(BeepNet x, int sheet, int lane, int... want) {
+    for (int i = 0; i < want.length; i++) {
+      is("sheet " + sheet + " of lane " + lane + ", item " + i, bits(x, sheet, lane, i), want[i]);
     }
-    for (int i = 0; i < 20; i++) {
-      all.append(x.round(i)).append(' ').append(x.trace(i)).append(' ');
-    }
-    return all.append(x.fault()).toString();
   }
 }

@@ -1,3 +1,4 @@
+import java.lang.reflect.Field;
 import java.lang.reflect.Method;
 import java.lang.reflect.Modifier;
 import java.nio.file.Files;
@@ -23,15 +24,17 @@ public final class LanguageTest {
 
   public static void main(String[] args) throws Exception {
     face();
+    names();
     classes();
+    staticFields();
     words();
-    for (int object = 0; object < 300; object++) {
-      neverThrows();
-    }
+    sizes();
+    neverThrows();
     Due.end();
   }
 
   private static void face() {
+    Due.rule(1, "The face: the class of the document, public and final, with the public constructor, methods and constants of the document and no other public, protected or package-visible member,");
     TreeSet<String> all = new TreeSet<>();
     for (Method m : BeepNet.class.getDeclaredMethods()) {
       if (!Modifier.isPrivate(m.getModifiers())) {
@@ -52,53 +55,96 @@ public final class LanguageTest {
     Due.is("BAD", BeepNet.BAD, -1000001);
     Due.is("STATE", BeepNet.STATE, -1000002);
     Due.is("FULL", BeepNet.FULL, -1000003);
-  }
-
-  private static void classes() {
-    List<Class<?>> all = new ArrayList<>(Arrays.asList(BeepNet.class.getDeclaredClasses()));
-    all.add(BeepNet.class);
-    Due.holds("at most twelve classes", all.size() <= 12);
-    TreeSet<String> publicNames = new TreeSet<>();
-    for (Method m : BeepNet.class.getMethods()) {
-      publicNames.add(m.getDeclaringClass() == BeepNet.class ? m.getName() : "");
-    }
-    for (Class<?> c : all) {
-      Due.holds(c + " is static", c == BeepNet.class || Modifier.isStatic(c.getModifiers()));
-      fields(c);
-      for (Method m : c.getDeclaredMethods()) {
-        boolean ofFace = c == BeepNet.class && Modifier.isPublic(m.getModifiers());
-        Due.holds(m + " has a name of its own", ofFace || !publicNames.contains(m.getName()));
-        Due.holds(m + " takes seven at most", m.getParameterCount() <= 7);
+    for (Class<?> c : allClasses()) {
+      for (Field f : c.getDeclaredFields()) {
+        Due.holds(f + " is private, or a constant of the face",
+            Modifier.isPrivate(f.getModifiers()) || c == BeepNet.class && Modifier.isPublic(f.getModifiers()));
       }
     }
   }
 
-  private static void fields(Class<?> c) {
-    int own = 0;
-    for (var f : c.getDeclaredFields()) {
-      boolean isStatic = Modifier.isStatic(f.getModifiers());
-      own += isStatic ? 0 : 1;
-      Due.holds(f + " is private, or a constant of the face",
-          Modifier.isPrivate(f.getModifiers()) || c == BeepNet.class && isStatic);
-      Due.holds(f + " is final", !isStatic || Modifier.isFinal(f.getModifiers()));
+  private static List<Class<?>> allClasses() {
+    List<Class<?>> all = new ArrayList<>(Arrays.asList(BeepNet.class.getDeclaredClasses()));
+    all.add(BeepNet.class);
+    return all;
+  }
+
+  private static void names() {
+    Due.rule(1, "No private method bears the name of a public one.");
+    TreeSet<String> publicNames = new TreeSet<>();
+    for (Method m : BeepNet.class.getMethods()) {
+      publicNames.add(m.getDeclaringClass() == BeepNet.class ? m.getName() : "");
     }
-    Due.holds(c + " has twenty fields at most", own <= 20);
+    for (Class<?> c : allClasses()) {
+      for (Method m : c.getDeclaredMethods()) {
+        boolean ofFace = c == BeepNet.class && Modifier.isPublic(m.getModifiers());
+        Due.holds(m + " has a name of its own", ofFace || !publicNames.contains(m.getName()));
+      }
+    }
+  }
+
+  private static void classes() throws Exception {
+    Due.rule(2, "No inner class that isn't static, no local or anonymous class, no lambda, no method reference.");
+    for (Class<?> c : BeepNet.class.getDeclaredClasses()) {
+      Due.holds(c + " is static", Modifier.isStatic(c.getModifiers()));
+      Due.is(c + " has no class inside", c.getDeclaredClasses().length, 0);
+    }
+    Due.holds("no lambda, no method reference", !code().contains("->") && !code().contains("::"));
+  }
+
+  private static void staticFields() {
+    Due.rule(5, "Static fields are final: constants of int, long, boolean, char or String,");
+    for (Class<?> c : allClasses()) {
+      for (Field f : c.getDeclaredFields()) {
+        if (Modifier.isStatic(f.getModifiers())) {
+          Due.holds(f + " is final", Modifier.isFinal(f.getModifiers()));
+          Due.holds(f + " is an int or a text", f.getType() == int.class || f.getType() == String.class);
+        }
+      }
+    }
+  }
+
+  private static String code() throws Exception {
+    String source = Files.readString(Path.of("src/main/java/BeepNet.java"));
+    return source.replaceAll("(?s)/\\*.*?\\*/", "").replaceAll("//.*", "");
   }
 
   private static void words() throws Exception {
-    String source = Files.readString(Path.of("src/main/java/BeepNet.java"));
-    String code = source.replaceAll("(?s)/\\*.*?\\*/", "").replaceAll("//.*", "");
-    String[] refused = {"throw", "try", "catch", "synchronized", "assert", "Exact", "System.out", "Object", "Random"};
+    Due.rule(6, "No throw, try, catch, synchronized, assert, switch with patterns, record patterns.");
+    String[] refused = {"throw", "throws", "try", "catch", "synchronized", "assert"};
     for (String word : refused) {
-      Due.holds("without " + word, !code.matches("(?s).*\\b\\w*" + word + "\\b.*"));
+      Due.holds("without " + word, !code().matches("(?s).*\\b" + word + "\\b.*"));
     }
-    Due.holds("no lambda, no method reference", !code.contains("->") && !code.contains("::"));
-    Due.is("one import", code.split("\\bimport ").length - 1, 1);
-    Due.holds("no package line", !code.matches("(?s).*\\bpackage .*"));
+    Due.rule(4, "The library: only what stands here.");
+    String[] unlisted = {"\\w+Exact", "System\\.out", "Object", "Random", "Thread", "\\w+Exception"};
+    for (String word : unlisted) {
+      Due.holds("without " + word, !code().matches("(?s).*\\b" + word + "\\b.*"));
+    }
+    Due.is("one import", code().split("\\bimport ").length - 1, 1);
+    Due.holds("it is Arrays", code().contains("import java.util.Arrays;"));
+    Due.holds("no package line", !code().matches("(?s).*\\bpackage .*"));
+  }
+
+  private static void sizes() throws Exception {
+    Due.rule(11, "A method takes at most seven parameters. Methods stay short (some sixty lines),");
+    for (Class<?> c : allClasses()) {
+      for (Method m : c.getDeclaredMethods()) {
+        Due.holds(m + " takes seven at most", m.getParameterCount() <= 7);
+      }
+    }
     int length = 0;
-    for (String line : code.split("\n")) {
+    for (String line : code().split("\n")) {
       length = line.matches("\\s*|    }|        }") ? 0 : length + 1;
       Due.holds("a method of some sixty lines: " + line, length <= 60);
+    }
+    Due.rule(11, "the file has at most some twelve classes, and a class some twenty fields beside its constants.");
+    Due.holds("at most twelve classes", allClasses().size() <= 12);
+    for (Class<?> c : allClasses()) {
+      int own = 0;
+      for (Field f : c.getDeclaredFields()) {
+        own += Modifier.isStatic(f.getModifiers()) ? 0 : 1;
+      }
+      Due.holds(c + " has twenty fields at most", own <= 20);
     }
   }
 
@@ -113,9 +159,16 @@ public final class LanguageTest {
   }
 
   private static void neverThrows() {
+    Due.rule(7, "No call may ever throw or fail to end, for any arguments in any state:");
+    for (int object = 0; object < 300; object++) {
+      sameAnswers();
+    }
+  }
+
+  private static void sameAnswers() {
     BeepNet x = new BeepNet();
     BeepNet twin = new BeepNet();
-    for (int call = 0; call < 400; call++) {
+    for (int call = 0; call < 512; call++) {
       int what = drawn(28);
       int[] a = {odd(), odd(), odd(), odd(), odd()};
       String text = TEXT[drawn(TEXT.length)];
