@@ -8,12 +8,16 @@ import java.util.stream.Stream;
 
 /**
  * That the tests quote the document: each sentence that a test names stands in it, at that promise or in what is said
- * for all, and no words of 'Terms' or of a promise are left that no test names.
+ * for all, and no words of 'Terms' or of a promise are left that no test names. And that the program writes the face
+ * as the document does.
  */
 public final class DocumentTest {
   private static final Path DOCUMENT = Path.of("../shared/DOC.md"), RULES = Path.of("../shared/LANGUAGE.md");
+  private static final Path PROGRAM = Path.of("src/main/java/BeepNet.java");
   private static final Pattern NAMED = Pattern.compile("Due\\.(test|rule)\\(\\s*(\\d+), \"([^\"]*)\"\\);");
-  private static final int PROMISES = 27;
+  private static final Pattern GROUP = Pattern.compile("Ahead of the calls (.*) the interface says: (.*)\\.");
+  private static final Pattern METHOD = Pattern.compile("(?m)^    public \\w+ (\\w+)\\(");
+  private static final int PROMISES = 27, GROUPS = 4;
 
   private final TreeMap<String, String> texts = new TreeMap<>();
   private final TreeMap<String, boolean[]> named = new TreeMap<>();
@@ -36,7 +40,44 @@ public final class DocumentTest {
     for (String section : t.texts.keySet()) {
       Due.holds(section + ": no test names \"" + t.unnamed(section) + "\"", t.unnamed(section).isEmpty());
     }
+    face(Files.readString(DOCUMENT), Files.readString(PROGRAM));
+    groups(Files.readString(DOCUMENT), Files.readString(PROGRAM));
     Due.end();
+  }
+
+  private static void face(String document, String program) {
+    Due.about("the public face, line by line, in the document's order");
+    int at = 0;
+    for (String line : between(document, "public final class BeepNet {", "\n}", false).split("\n")) {
+      String written = line.contains("(") ? line.replace(";", " {") : line;
+      int found = program.indexOf("\n" + written + "\n", at);
+      Due.holds(written, found >= at);
+      at = Math.max(at, found);
+    }
+  }
+
+  private static void groups(String document, String program) {
+    Due.about("what the interface says ahead of calls");
+    int groups = 0;
+    Matcher m = GROUP.matcher(document);
+    while (m.find()) {
+      groups++;
+      String heading = "    // " + m.group(2) + "\n";
+      Due.holds("it says " + m.group(2), program.contains(heading));
+      String[] parts = program.split(heading);
+      String behind = parts[parts.length - 1].split("    // ---- ")[0];
+      Due.holds(m.group(2) + ": " + m.group(1), calls(behind).equals(m.group(1)));
+    }
+    Due.is("groups", groups, GROUPS);
+  }
+
+  private static String calls(String program) {
+    StringBuilder all = new StringBuilder();
+    Matcher m = METHOD.matcher(program);
+    while (m.find()) {
+      all.append(all.length() == 0 ? "`" : ", `").append(m.group(1)).append("`");
+    }
+    return all.toString();
   }
 
   private static String sources() throws IOException {
